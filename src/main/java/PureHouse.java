@@ -563,7 +563,10 @@ public final class PureHouse {
         static final int USE = 7;
 
         int kind;
-        /** The number of a sort or of a name of the context; of a binder and what it binds, one that no binder around has. */
+        /**
+         * The number of a sort or of a name of the context; of a binder and of what it binds, a
+         * number that no binder around it has.
+         */
         int id;
         /** The place of the name or sign that makes it what it is. */
         int at = NONE;
@@ -1132,14 +1135,17 @@ public final class PureHouse {
             lifeWork++;
         }
 
-        /** A deep look is counted: only one that would be too much is not done. */
+        /** A deep look is counted, where there is work left for it: it is one that was made. */
         private void look(int within) {
-            if (within >= LOOKS_WITHIN) {
-                record(LOOKS);
-                stop.set(13, beganAt);
-                throw new IllegalStateException();
+            if (within < LOOKS_WITHIN) {
+                spend(LOOKS);
+                return;
             }
-            spend(LOOKS);
+            if (done[0] < workMost && lifeWork < LIFE_MOST) {
+                record(LOOKS);
+            }
+            stop.set(13, beganAt);
+            throw new IllegalStateException();
         }
 
         private Head head(Node term, Link env) {
@@ -1347,6 +1353,7 @@ public final class PureHouse {
             return neededSort(judge(term, null), term);
         }
 
+        /** The reader lets no term stand within 40 others, which keeps this from going deep. */
         private Node judge(Node term, Scope scope) {
             if (term.first == null) {
                 return judgeName(term, scope);

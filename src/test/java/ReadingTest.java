@@ -7,6 +7,7 @@ public final class ReadingTest {
 
     public static void main(String[] args) {
         tokens();
+        tapeBehindTheText();
         statements();
         wrongTokens();
         endsTooSoon();
@@ -26,7 +27,26 @@ public final class ReadingTest {
         Due.tells(house, "x':=c;x'1b:=x';norm x'1b;", "c\n");
         Due.tells(house, "letx:=c;check1:A;norm letx;norm check1;", "c\ncheck1\n");
         Due.tells(house, "norm\\x:A.x;", "\\_0:A._0\n");
+        Due.tells(house, "zZaA09 : A;Zz : A;norm zZaA09;norm Zz;", "zZaA09\nZz\n");
         Due.tells(house, "Abcdefghijkl : A;norm Abcdefghijkl;", "Abcdefghijkl\n");
+    }
+
+    /** What stands on the tape behind the text's end is no part of it. */
+    private static void tapeBehindTheText() {
+        String tape = "norm c;{a}x:=cc;A->A";
+        int[] lengths = {6, 7, 8, 9, 12, 14, 15, 16, 17, 18};
+        int[] faults = {1, 0, 1, 1, 1, 1, 1, 3, 1, 1};
+        int[] places = {6, PureHouse.NONE, 7, 7, 12, 14, 15, 13, 17, 17};
+        for (int i = 0; i < lengths.length; i++) {
+            PureHouse house = Due.house(BASE);
+            int[] four = new int[5];
+            for (int k = 0; k < 20; k++) {
+                four[k / 4] = four[k / 4] << 8 | tape.charAt(k);
+            }
+            house.feed(four[0], four[1], four[2], four[3], four[4]);
+            Due.equal("text " + lengths[i], house.text(lengths[i]), faults[i]);
+            Due.equal("place " + lengths[i], house.fault(1), places[i]);
+        }
     }
 
     private static void statements() {
@@ -86,7 +106,8 @@ public final class ReadingTest {
     private static void deepTerms() {
         Due.tells(Due.house(BASE), nested("(", 39, "c", ")"), "c\n");
         Due.faulty(Due.house(BASE), nested("(", 40, "c", ")"), 2, 45, 0);
-        Due.tells(Due.house(BASE), nested("f (", 39, "c", ")"), Due.times("f (", 38) + "f c" + Due.times(")", 38) + "\n");
+        String uses = Due.times("f (", 38) + "f c" + Due.times(")", 38) + "\n";
+        Due.tells(Due.house(BASE), nested("f (", 39, "c", ")"), uses);
         Due.faulty(Due.house(BASE), nested("f (", 40, "c", ")"), 2, 125, 0);
         Due.equal("39 arrows", Due.say(Due.house(BASE), nested("A->", 39, "A", "")), 0);
         Due.faulty(Due.house(BASE), nested("A->", 40, "A", ""), 2, 125, 0);
