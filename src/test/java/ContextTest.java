@@ -67,13 +67,15 @@ public final class ContextTest {
 
     private static void lastOfAHundred() {
         StringBuilder text = new StringBuilder();
-        for (int i = 0; i < 100; i++) {
+        for (int i = 0; i < 99; i++) {
             text.append('x').append(i).append(" : type;");
         }
-        House house = Due.house(text.toString());
+        House house = Due.house(text + "abcdefghijkl : type;");
         Due.equal("names", house.count(8), 100);
-        Due.equal("signs of the last", house.name(99, 2), 3);
-        Due.equal("its last sign", house.name(99, 5), '9');
+        Due.equal("signs of the last", house.name(99, 2), 12);
+        Due.equal("its last sign", house.name(99, 14), 'l');
+        Due.tells(house, "norm abcdefghijkl;", "abcdefghijkl\n");
+        Due.faulty(house, "abcdefghijkl : type;", 4, 0, 0);
         Due.equal("type of the last", house.type(99), 4);
         Due.equal("the last and itself", house.same(99, 99), 1);
         Due.equal("the last and the first", house.same(99, 0), 0);

@@ -15,6 +15,7 @@ public final class EndsTest {
     public static void main(String[] args) {
         everyStepUnderTheLimit();
         everyStatementHasItsLimit();
+        lowestAndHighestLimit();
         placesOfTwelve();
         nothingStaysOfIt();
         limitOfTypeAndSame();
@@ -73,6 +74,19 @@ public final class EndsTest {
         house.limit(2);
         Due.tells(house, "x := f c;y := f c;z := f c;norm c;norm c;norm c;", "c\nc\nc\n");
         Due.faulty(house, "norm c;norm f c;norm c;", 12, 7, 1);
+    }
+
+    /** Promise 6: THE LIMIT is 1 .. 20,000. */
+    private static void lowestAndHighestLimit() {
+        House house = Due.house(BURNING);
+        int life = house.count(7);
+        house.limit(1);
+        Due.faulty(house, "norm c;norm i;", 12, 7, 1);
+        Due.spent(house, "under 1", 0, 0, 0, 0, 0, 1);
+        house.limit(20000);
+        Due.faulty(house, BURNT, 12, 0, 0);
+        Due.equal("under 20,000", house.count(0), 20000);
+        Due.equal("life", house.count(7), life + 2 + 20000);
     }
 
     /** "all at the STATEMENT's first token" */

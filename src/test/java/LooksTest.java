@@ -21,6 +21,8 @@ public final class LooksTest {
         tellInOrder();
         normalizeAsTell();
         normalFormsAreTerms();
+        normalFormsOfManyParts();
+        normalFormsOfTheFirstText();
         Due.end();
     }
 
@@ -80,6 +82,7 @@ public final class LooksTest {
         Due.tells(house, "same g c = g c c;", "no\n");
         Due.spent(house, "more of the one", 0, 0, 0, 3, 0, 10 + 1);
         Due.tells(house, "same g c c = g c;same f c = f;", "no\nno\n");
+        Due.tells(house, "same g c (f c) = g c (f c);same g (f c) c = g (f c) (f c);", "yes\nno\n");
         Due.tells(house, "same g c (f c) = g c c;", "no\n");
         Due.spent(house, "the last differ", 0, 0, 0, 5, 0, 8 + 6 + 3);
     }
@@ -210,5 +213,23 @@ public final class LooksTest {
         Due.spent(house, "r", 0, 1, 0, 1 + 2, 0, 2 + 2 + 2);
         Due.equal("type(10)", house.type(10), 3);
         Due.spent(house, "type(10)", 0, 0, 0, 1, 0, 2);
+    }
+
+    private static void normalFormsOfManyParts() {
+        House house = Due.house(BASE + "Q : A->A->(A->A)->type;q : Q c (f c) (\\x:A.f x);"
+            + "k : !x:A.!y:A.Q y x (g x);");
+        Due.tells(house, "check q;", "Q c (f c) (\\_0:A.f _0)\n");
+        Due.tells(house, "check k c (f c);", "Q (f c) c (g c)\n");
+        Due.tells(house, "check \\z:A.k z c;", "!_0:A.Q c _0 (g _0)\n");
+    }
+
+    /** New NAMES are others than all that a text binds, be these the first of the house's life. */
+    private static void normalFormsOfTheFirstText() {
+        Due.tells(new House(), "check \\a:type.\\f:!b:type.a->b.f;",
+            "!_0:type.!_1:(!_1:type.!_2:_0._1).!_2:type.!_3:_0._2\n");
+        Due.tells(new House(), "check \\a:type.\\f:!b:type.a->b.\\x:a.f a x;",
+            "!_0:type.!_1:(!_1:type.!_2:_0._1).!_2:_0._0\n");
+        Due.tells(new House(), "same \\a:type.!b:type.a->b = \\b:type.!a:type.b->a;", "yes\n");
+        Due.tells(new House(), "same \\a:type.!b:type.a->b = \\b:type.!a:type.a->b;", "no\n");
     }
 }

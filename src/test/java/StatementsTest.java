@@ -21,6 +21,7 @@ public final class StatementsTest {
         typeAheadOfTheTerm();
         norm();
         head();
+        headOfAHundred();
         same();
         firstFaultEnds();
         nothingOfThatStatement();
@@ -226,6 +227,15 @@ public final class StatementsTest {
         }
         Due.tells(house, "m : " + type + "A;head m" + Due.times(" c", 9) + ";", "m 9\n");
         Due.tells(house, "head m" + Due.times(" c", 10) + ";head m" + Due.times(" c", 12) + ";", "m 10\nm 12\n");
+    }
+
+    /** With a type of 99 products for a, that NAME is applied to as many and the type. */
+    private static void headOfAHundred() {
+        House house = Due.house("A : type;c : A;p : !a:type.a;R := \\a:type." + Due.times("A->", 11) + "a;");
+        String type = Due.times("R (", 9) + "A" + Due.times(")", 9);
+        house.limit(20000);
+        Due.tells(house, "head p (" + type + ")" + Due.times(" c", 98) + ";", "p 99\n");
+        Due.tells(house, "head p (" + type + ")" + Due.times(" c", 99) + ";", "p 100\n");
     }
 
     /** "same M = N: M, N are judged, then COMPARED: yes or no, and a 10" */

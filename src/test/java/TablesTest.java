@@ -173,11 +173,14 @@ public final class TablesTest {
         Due.equal("seven", Due.say(house, EIGHT.substring(0, 49)), 0);
         Due.equal("sorts", house.count(9), 7);
         Due.noSuch(house, "sort(7, 0)", () -> house.sort(7, 0));
-        Due.faulty(house, "sort p; sort q;", 5, 13, 1);
+        Due.faulty(house, "sort p23456789012; sort q;", 5, 24, 1);
         Due.equal("sorts", house.count(9), 8);
         Due.equal("the last", house.sort(7, 2), 'p');
+        Due.equal("the last sign of the last", house.sort(7, 13), '2');
         Due.noSuch(house, "sort(8, 0)", () -> house.sort(8, 0));
-        Due.equal("a rule of the last", Due.say(house, "rule p p p;rule p a b;axiom p : a;"), 0);
+        String p = "p23456789012";
+        String text = "rule " + p + " " + p + " " + p + ";rule " + p + " a b;axiom " + p + " : a;";
+        Due.equal("rules of the last", Due.say(house, text), 0);
         Due.equal("p p", house.rule(7, 7), 7);
         Due.equal("p a", house.rule(7, 0), 1);
         Due.equal("p : a", house.sort(7, 0), 0);
