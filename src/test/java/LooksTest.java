@@ -15,6 +15,7 @@ public final class LooksTest {
         overAtTheFirst();
         mThenN();
         tellBinders();
+        tellArrows();
         tellManyBinders();
         tellUses();
         tellLooks();
@@ -118,6 +119,14 @@ public final class LooksTest {
         Due.tells(house, "norm P c->!x:A.P x;", "!_0:P c.!_1:A.P _1\n");
         Due.tells(house, "norm \\x:P c.R (\\y:A.g y y);", "\\_0:P c.R (\\_1:A.g _1 _1)\n");
         Due.tells(house, "norm \\x:(\\a:type.a->a) A.A->A;", "\\_0:(!_0:A.A).!_1:A.A\n");
+    }
+
+    /** "(A -> B is ! of a NAME that B has not.)" */
+    private static void tellArrows() {
+        House house = Due.house(BASE);
+        Due.tells(house, "norm \\x:A.A->P x;norm !x:A.P x->P (f x);",
+            "\\_0:A.!_1:A.P _0\n!_0:A.!_1:P _0.P (f _0)\n");
+        Due.tells(house, "same A->P c = !x:A.P c;same A->P c = !c:A.P c;", "yes\nno\n");
     }
 
     private static void tellManyBinders() {
