@@ -238,6 +238,10 @@ public final class LooksTest {
             "!_0:type.!_1:(!_1:type.!_2:_0._1).!_2:type.!_3:_0._2\n");
         Due.tells(new House(), "check \\a:type.\\f:!b:type.a->b.\\x:a.f a x;",
             "!_0:type.!_1:(!_1:type.!_2:_0._1).!_2:_0._0\n");
+        String three = "!b:type.!d:type.!e:type.";
+        String told = "!_1:type.!_2:type.!_3:type._0";
+        Due.tells(new House(), "check \\a:type.\\x:" + three + "a.a;", "!_0:type.!_1:(" + told + ").type\n");
+        Due.faulty(new House(), "check \\a:type.\\F:(" + three + "e)->a.\\x:" + three + "a.F x;", 11, 79, 0);
         Due.tells(new House(), "same \\a:type.!b:type.a->b = \\b:type.!a:type.b->a;", "yes\n");
         Due.tells(new House(), "same \\a:type.!b:type.a->b = \\b:type.!a:type.a->b;", "no\n");
     }
