@@ -225,8 +225,10 @@ public final class PureHouse {
 
     private int compareNames(int j, int k) {
         machine.begin(0);
+        Node one = new Node(Node.CONSTANT, j);
+        Node other = new Node(Node.CONSTANT, k);
         try {
-            return machine.areSame(Node.leaf(Node.CONSTANT, j), Node.leaf(Node.CONSTANT, k)) ? 1 : 0;
+            return machine.areSame(one, other) ? 1 : 0;
         } catch (IllegalStateException ended) {
             return -stop.fault;
         }
@@ -331,7 +333,7 @@ public final class PureHouse {
         int sort = judge.sortAsType(told.first);
         Node type = machine.normalForm(told.first, null);
         if (told.second != null) {
-            needType(told.second, type);
+            needSame(type, judge.typeOf(told.second), told.second);
         }
         book.addName(tape, told.name, type, sort, told.second);
     }
@@ -349,7 +351,8 @@ public final class PureHouse {
             return;
         }
         judge.sortAsType(told.second);
-        needType(told.first, machine.normalForm(told.second, null));
+        Node wanted = machine.normalForm(told.second, null);
+        needSame(wanted, judge.typeOf(told.first), told.first);
         machine.putAnswer(true);
     }
 
@@ -371,8 +374,7 @@ public final class PureHouse {
         }
     }
 
-    private void needType(Node term, Node wanted) {
-        Node type = judge.typeOf(term);
+    private void needSame(Node wanted, Node type, Node term) {
         if (!machine.areSame(wanted, type)) {
             stop.set(11, term.start);
             throw new IllegalStateException();
@@ -437,7 +439,7 @@ public final class PureHouse {
         }
 
         int signOf(int k, int i) {
-            if (!has(k) || i < 0 || i >= lengths[k]) {
+            if (k < 0 || k >= size || i < 0 || i >= lengths[k]) {
                 return NONE;
             }
             return signs[k * SIGNS_MOST + i];
@@ -524,7 +526,10 @@ public final class PureHouse {
         }
 
         int ruleOf(int a, int b) {
-            return sorts.has(a) && sorts.has(b) ? rules[a * SORTS_MOST + b] : NONE;
+            if (a < 0 || a >= SORTS_MOST || b < 0 || b >= SORTS_MOST) {
+                return NONE;
+            }
+            return rules[a * SORTS_MOST + b];
         }
 
         void setRule(int a, int b, int c) {
@@ -546,7 +551,7 @@ public final class PureHouse {
         }
 
         Node valueOf(int k) {
-            return names.has(k) ? values[k] : null;
+            return k >= 0 && k < names.size ? values[k] : null;
         }
     }
 
@@ -585,10 +590,6 @@ public final class PureHouse {
         Node(int kind, int id) {
             this.kind = kind;
             this.id = id;
-        }
-
-        static Node leaf(int kind, int id) {
-            return new Node(kind, id);
         }
 
         static Node named(int at, int length) {
@@ -662,25 +663,22 @@ public final class PureHouse {
         final int newName;
         final Link next;
 
-        private Link(int id, Node term, Link env, int newName, Link next) {
+        /** A term put for the name that id tells; of a part that a term is applied to, id is 0. */
+        Link(int id, Node term, Link env, Link next) {
             this.id = id;
             this.term = term;
             this.env = env;
-            this.newName = newName;
+            this.newName = 0;
             this.next = next;
         }
 
-        static Link part(Node term, Link env, Link next) {
-            return new Link(0, term, env, 0, next);
-        }
-
-        static Link put(int id, Node term, Link env, Link next) {
-            return new Link(id, term, env, 0, next);
-        }
-
         /** New names are told by their level, below 0: binders of a text have ids above 0. */
-        static Link putNew(int id, int level, Link next) {
-            return new Link(id, null, null, -1 - level, next);
+        Link(int id, int level, Link next) {
+            this.id = id;
+            this.term = null;
+            this.env = null;
+            this.newName = -1 - level;
+            this.next = next;
         }
 
         static Link find(int id, Link row) {
@@ -721,7 +719,7 @@ public final class PureHouse {
         }
 
         Link envOfSecond(int level) {
-            return Link.putNew(node.id, level, env);
+            return new Link(node.id, level, env);
         }
     }
 
@@ -740,7 +738,7 @@ public final class PureHouse {
             this.next = next;
             Link outer = letsOf(next);
             boolean isLet = binder.kind == Node.LET;
-            this.lets = isLet ? Link.put(binder.id, binder.first, outer, outer) : outer;
+            this.lets = isLet ? new Link(binder.id, binder.first, outer, outer) : outer;
         }
 
         /** For a name bound by lambda or product nothing is put: it has no link. */
@@ -767,9 +765,12 @@ public final class PureHouse {
 
         private final byte[] bytes;
         private final Stop stop;
+        /** Of each token: a word's number, a sign's byte, or one of the constants above. */
+        private final int[] tokens;
+        private final int[] places;
+        private final int[] lengths;
         private int length = 0;
         private int next = 0;
-        /** A word's number, a sign's byte, or one of the constants above. */
         private int token = END;
         private int tokenAt = 0;
         private int tokenLength = 0;
@@ -778,10 +779,15 @@ public final class PureHouse {
         Reader(byte[] bytes, Stop stop) {
             this.bytes = bytes;
             this.stop = stop;
+            // A text of single signs has a token for each byte, and the end behind them.
+            tokens = new int[bytes.length + 1];
+            places = new int[bytes.length + 1];
+            lengths = new int[bytes.length + 1];
         }
 
         List<Statement> readText(int textLength) {
             length = Math.min(textLength, bytes.length);
+            scan();
             next = 0;
             List<Statement> statements = new ArrayList<>();
             advance();
@@ -951,35 +957,53 @@ public final class PureHouse {
         }
 
         private void advance() {
-            skipBlanks();
-            tokenAt = next;
-            tokenLength = 1;
-            if (next >= length) {
-                token = END;
+            if (next >= tokens.length) {
                 return;
             }
-            if (isLetter(bytes[next])) {
-                takeSigns();
-            } else {
-                token = signToken(bytes[next]);
+            token = tokens[next];
+            tokenAt = places[next];
+            tokenLength = lengths[next];
+            next++;
+        }
+
+        /** To the end, or to the first that is no token: no text goes on behind that one. */
+        private void scan() {
+            int at = 0;
+            for (int i = 0; i < tokens.length; i++) {
+                at = behindBlanks(at);
+                tokenAt = at;
+                tokenLength = 1;
+                if (at >= length) {
+                    token = END;
+                } else {
+                    token = isLetter(bytes[at]) ? nameToken() : signToken(bytes[at]);
+                }
+                tokens[i] = token;
+                places[i] = at;
+                lengths[i] = tokenLength;
+                if (token == END || token == NO_TOKEN) {
+                    return;
+                }
+                at += tokenLength;
             }
-            next += tokenLength;
         }
 
         /** An open { is left where it is: it is no token. */
-        private void skipBlanks() {
-            for (; next < length; next++) {
-                int sign = bytes[next];
+        private int behindBlanks(int from) {
+            int at = from;
+            for (; at < length; at++) {
+                int sign = bytes[at];
                 if (sign == '{') {
-                    int close = closeOf(next);
+                    int close = closeOf(at);
                     if (close == NONE) {
-                        return;
+                        return at;
                     }
-                    next = close;
+                    at = close;
                 } else if (sign != 10 && sign != 32) {
-                    return;
+                    return at;
                 }
             }
+            return at;
         }
 
         private int closeOf(int open) {
@@ -991,16 +1015,17 @@ public final class PureHouse {
             return NONE;
         }
 
-        private void takeSigns() {
-            int end = next + 1;
+        private int nameToken() {
+            int end = tokenAt + 1;
             while (end < length && isNameSign(bytes[end])) {
                 end++;
             }
-            tokenLength = end - next;
-            token = wordNumber();
-            if (token == NONE) {
-                token = tokenLength > Names.SIGNS_MOST ? LONG_NAME : NAME;
+            tokenLength = end - tokenAt;
+            int word = wordNumber();
+            if (word != NONE) {
+                return word;
             }
+            return tokenLength > Names.SIGNS_MOST ? LONG_NAME : NAME;
         }
 
         private int wordNumber() {
@@ -1025,7 +1050,7 @@ public final class PureHouse {
         }
 
         private int signToken(int sign) {
-            int follower = next + 1 < length ? bytes[next + 1] : NONE;
+            int follower = tokenAt + 1 < length ? bytes[tokenAt + 1] : NONE;
             if (sign == ':' && follower == '=') {
                 tokenLength = 2;
                 return ASSIGN;
@@ -1106,6 +1131,10 @@ public final class PureHouse {
             tell(term, null, 0, 0, BARE);
         }
 
+        Node normalForm(Node term, Link env) {
+            return normalize(term, env, 0, 0);
+        }
+
         void tellHead(Node term) {
             Head head = head(term, null);
             putFront(head);
@@ -1113,23 +1142,14 @@ public final class PureHouse {
             putNumber(head.isBinder() ? 0 : Link.lengthOf(head.parts));
         }
 
-        Node normalForm(Node term, Link env) {
-            return normalize(term, env, 0, 0);
-        }
-
+        /** What is over THE LIMIT or over a life's work is not done, nor counted. */
         private void spend(int kind) {
-            if (done[0] >= workMost) {
-                stop.set(12, beganAt);
+            boolean isOverLimit = done[0] >= workMost;
+            if (isOverLimit || lifeWork >= LIFE_MOST) {
+                stop.fault = isOverLimit ? 12 : 14;
+                stop.place = beganAt;
                 throw new IllegalStateException();
             }
-            if (lifeWork >= LIFE_MOST) {
-                stop.set(14, beganAt);
-                throw new IllegalStateException();
-            }
-            record(kind);
-        }
-
-        private void record(int kind) {
             done[0]++;
             done[kind]++;
             lifeWork++;
@@ -1137,15 +1157,14 @@ public final class PureHouse {
 
         /** A deep look is counted, where there is work left for it: it is one that was made. */
         private void look(int within) {
-            if (within < LOOKS_WITHIN) {
+            boolean isDeep = within >= LOOKS_WITHIN;
+            if (!isDeep || done[0] < workMost && lifeWork < LIFE_MOST) {
                 spend(LOOKS);
-                return;
             }
-            if (done[0] < workMost && lifeWork < LIFE_MOST) {
-                record(LOOKS);
+            if (isDeep) {
+                stop.set(13, beganAt);
+                throw new IllegalStateException();
             }
-            stop.set(13, beganAt);
-            throw new IllegalStateException();
         }
 
         private Head head(Node term, Link env) {
@@ -1154,15 +1173,18 @@ public final class PureHouse {
             Link parts = null;
             for (int turn = 0; turn < TURNS; turn++) {
                 if (node.kind == Node.USE) {
-                    parts = pushParts(node.parts, puts, parts);
+                    for (int i = node.parts.length - 1; i >= 0; i--) {
+                        spend(P);
+                        parts = new Link(0, node.parts[i], puts, parts);
+                    }
                     node = node.first;
                 } else if (node.kind == Node.LET) {
                     spend(Z);
-                    puts = Link.put(node.id, node.first, puts, puts);
+                    puts = new Link(node.id, node.first, puts, puts);
                     node = node.second;
                 } else if (node.kind == Node.LAMBDA && parts != null) {
                     spend(B);
-                    puts = Link.put(node.id, parts.term, parts.env, puts);
+                    puts = new Link(node.id, parts.term, parts.env, puts);
                     parts = parts.next;
                     node = node.second;
                 } else if (node.kind == Node.CONSTANT && book.valueOf(node.id) != null) {
@@ -1183,15 +1205,6 @@ public final class PureHouse {
                 }
             }
             return new Head(node, node.id, puts, parts);
-        }
-
-        private Link pushParts(Node[] pushed, Link env, Link behind) {
-            Link row = behind;
-            for (int i = pushed.length - 1; i >= 0; i--) {
-                spend(P);
-                row = Link.part(pushed[i], env, row);
-            }
-            return row;
         }
 
         /** level: within how many second terms it stands; depth: within how many looks. */
@@ -1230,7 +1243,8 @@ public final class PureHouse {
             }
             putFront(head);
             if (isBinder) {
-                putNewName(level);
+                put('_');
+                putNumber(level);
                 put(':');
                 tell(head.node.first, head.env, level, depth + 1, ROUND_BINDERS);
                 put('.');
@@ -1258,7 +1272,7 @@ public final class PureHouse {
                 made.keepSorts(node.sortA, node.sortB);
                 return made;
             }
-            Node front = Node.leaf(node.kind, head.id);
+            Node front = new Node(node.kind, head.id);
             if (head.parts == null) {
                 return front;
             }
@@ -1286,14 +1300,10 @@ public final class PureHouse {
                     putSigns(book.names, head.id);
                     break;
                 default:
-                    putNewName(-1 - head.id);
+                    put('_');
+                    putNumber(-1 - head.id);
                     break;
             }
-        }
-
-        private void putNewName(int level) {
-            put('_');
-            putNumber(level);
         }
 
         private void putSigns(Names names, int k) {
@@ -1366,8 +1376,14 @@ public final class PureHouse {
                 for (int i = 0; i < term.parts.length; i++) {
                     needProduct(found, term.first);
                     Node part = term.parts[i];
-                    needPart(found, judge(part, scope), part);
-                    found = typeOfUse(found, part, scope);
+                    Node type = judge(part, scope);
+                    if (!machine.areSame(found.first, type)) {
+                        stop.set(11, part.start);
+                        throw new IllegalStateException();
+                    }
+                    sortOfType = found.sortB;
+                    Link put = new Link(found.id, part, Scope.letsOf(scope), null);
+                    found = machine.normalForm(found.second, put);
                 }
                 return found;
             }
@@ -1403,7 +1419,7 @@ public final class PureHouse {
                 throw new IllegalStateException();
             }
             resolve(term, Node.SORT, s, book.axiomOf(axiom));
-            return Node.leaf(Node.SORT, axiom);
+            return new Node(Node.SORT, axiom);
         }
 
         private boolean isNameOf(Node binder, Node term) {
@@ -1432,24 +1448,11 @@ public final class PureHouse {
             }
         }
 
-        private void needPart(Node product, Node type, Node part) {
-            if (!machine.areSame(product.first, type)) {
-                stop.set(11, part.start);
-                throw new IllegalStateException();
-            }
-        }
-
-        private Node typeOfUse(Node product, Node part, Scope scope) {
-            sortOfType = product.sortB;
-            Link put = Link.put(product.id, part, Scope.letsOf(scope), null);
-            return machine.normalForm(product.second, put);
-        }
-
         private Node typeOfProduct(Node term, int a, int b) {
             int c = neededRule(a, b, term);
             term.keepSorts(a, b);
             sortOfType = book.axiomOf(c);
-            return Node.leaf(Node.SORT, c);
+            return new Node(Node.SORT, c);
         }
 
         private Node typeOfLambda(Node term, Node domain, int a, Node range) {
