@@ -24,6 +24,7 @@ public final class TokensTest {
         twoThatStandTogether();
         signsOfNoText();
         behindTheTextsEnd();
+        tokensOfOneByteEach();
         Due.end();
     }
 
@@ -220,5 +221,14 @@ public final class TokensTest {
         Due.feed(house, "norm abcdefghijklm;");
         Due.equal("13 of 13 signs", house.text(18), 2);
         Due.equal("its place", house.fault(1), 5);
+    }
+
+    /** "the text's length where it ends too soon": of a full tape with a token in every byte, too. */
+    private static void tokensOfOneByteEach() {
+        String most = Due.times("s:t;", 999);
+        Due.faulty(new House(), most + "s:t;", 3, 2, 0);
+        Due.faulty(new House(), most + "s:t=", 1, 3999, 0);
+        Due.faulty(new House(), most + "s:t(", 1, 4000, 0);
+        Due.faulty(new House(), most + "s:(", 1, 3999, 0);
     }
 }
